@@ -322,8 +322,8 @@ public final class RequestReader {
             int check = -1;
             for (int i = start; i < stop; i++) {
                 check ^= get(i);
-                check = check >>> 4 ^ CHECK_STEPS[check & 15];
-                check = check >>> 4 ^ CHECK_STEPS[check & 15];
+                check = (check >>> 4) ^ CHECK_STEPS[check & 15];
+                check = (check >>> 4) ^ CHECK_STEPS[check & 15];
             }
             return ~check;
         }
@@ -378,7 +378,7 @@ public final class RequestReader {
             if (i <= 0 || i >= MARK_SIZE - 1) {
                 return '"';
             }
-            return DIGITS.charAt(check >>> 4 * (8 - i) & 15);
+            return DIGITS.charAt((check >>> 4 * (8 - i)) & 15);
         }
     }
 

@@ -20,7 +20,7 @@ public final class AnswerTest {
   }
 
   private static void escapes() {
-    byte[] image = Bench.image(new String[][] {{"/a%?~!", "x"}, {"/d/index.html", "y"}, {"/%41", "z"}});
+    byte[] image = Bench.image(new String[][] {{"/a%?~!", "x"}, {"/d/index.html", "y"}, {"/%41", "z"}, {"/jzjz0p@", ""}});
     Bench.due("all escaped", target(image, "/%61%25%3f%7E%21"), OK);
     Bench.due("the slash too", target(image, "%2Fa"), "2 400");
     Bench.due("some escaped", target(image, "/a%25%3F~!"), OK);
@@ -31,7 +31,8 @@ public final class AnswerTest {
     Bench.due("an escaped last slash", target(image, "/d%2f"), OK);
     Bench.due("escaped once only", target(image, "/%2541"), OK);
     Bench.due("not the code itself", target(image, "/%41"), "1 404");
-    String[] faulty = {"/%", "/%4", "/%4?", "/%?41", "/a%", "/%g1", "/%1g", "/%G1", "/%1G", "/%/1", "/%:1", "/%@1",
+    Bench.due("digits a and 0", target(image, "/%6a%7a%6A%7A%30%70%40"), OK);
+    String[] faulty = {"/%4g", "/%4G", "/%g4", "/%", "/%4", "/%4?", "/%?41", "/a%", "/%g1", "/%1g", "/%G1", "/%1G", "/%/1", "/%:1", "/%@1",
         "/%`1", "/%1/", "/%20", "/%7f", "/%7F", "/%80", "/%ff", "/%00", "/%%41", "/%-1", "/%+1", "/%41%",
         "/%1", "/%1?1"};
     for (String each : faulty) {
@@ -167,6 +168,10 @@ public final class AnswerTest {
     byte[] image = Bench.image(new String[][] {{"/b", content.toString()}});
     Bench.due("a large file", Bench.ask(image, "GET /b HTTP/1.1\nHost:\n\n"),
         "1 " + Bench.successHead(content.toString(), "application/octet-stream", false) + content);
+    String largest = "x".repeat(65535 - 76);
+    image = Bench.image(new String[][] {{"/b", largest}});
+    Bench.due("the largest file", Bench.ask(image, "GET /b HTTP/1.0\n\n"),
+        "2 " + Bench.successHead(largest, "application/octet-stream", true) + largest);
     byte[] short10 = Bench.image(new String[][] {{"/b", content.substring(0, 10)}});
     Bench.due("10 bytes", Bench.ask(short10, "GET /b HTTP/1.1\nHost:\n\n"),
         "1 " + Bench.successHead(content.substring(0, 10), "application/octet-stream", false) + content.substring(0, 10));

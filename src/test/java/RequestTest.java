@@ -88,7 +88,7 @@ public final class RequestTest {
     head("GET / HTTP/1.1", "Host:\n", "1 200");
     head("GET / HTTP/1.1", "hOSt: a\n", "1 200");
     head("GET / HTTP/1.1", "Host: a\nHOST: a\n", "2 400");
-    head("GET / HTTP/1.1", "Hos: a\nHostt: b\n", "2 400");
+    head("GET / HTTP/1.1", "Hos: a\nHostt: b\nXost: c\nHosx: d\n", "2 400");
     head("GET / HTTP/1.0", "", "2 200");
     head("GET / HTTP/1.0", "Host: a\n", "2 200");
     head("GET / HTTP/1.0", "Host: a\nhost: b\n", "2 400");
@@ -97,7 +97,7 @@ public final class RequestTest {
   private static void encodings() {
     head("GET / HTTP/1.1", "Host:\nTransfer-Encoding: chunked\n", "2 501");
     head("GET / HTTP/1.0", "transfer-ENCODING:\n", "2 501");
-    head("GET / HTTP/1.0", "Transfer-Encodin:\n", "2 200");
+    head("GET / HTTP/1.0", "Transfer-Encodin:\nXransfer-Encoding:\n", "2 200");
   }
 
   private static void lengths() {

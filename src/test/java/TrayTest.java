@@ -96,6 +96,10 @@ public final class TrayTest {
     Bench.due("come above 4096", x.come(), -1);
     Bench.due("all stayed", x.end(65540), 65540);
     Bench.due("still open", x.look(), 0);
+    Bench.due("end(65521)", x.end(65521), 65521);
+    Bench.due("feed to 65541", x.feed(0, 0, 0, 0, 0), -1);
+    Bench.due("end(65520)", x.end(65520), 65520);
+    Bench.due("feed to 65540", x.feed(0, 0, 0, 0, 0), 65540);
     Bench.due("end(65536)", x.end(65536), 65536);
     Bench.due("install 65536", x.install(), -1);
     Bench.due("end(65535)", x.end(65535), 65535);

@@ -11,8 +11,23 @@ final class Bench {
   static final String[][] FILES = {{"/index.html", HTML}, {"/a.txt", TEXT}, {"/none", ""}};
 
   private static int wrong = 0;
+  private static int sentences = 0;
 
   private Bench() {
+  }
+
+  /** One sentence of the document, and calls of which one goes wrong if it does not hold. */
+  static void says(String sentence, Runnable calls) {
+    int before = wrong;
+    sentences++;
+    try {
+      calls.run();
+    } catch (RuntimeException thrown) {
+      due("a call", thrown, "no exception");
+    }
+    if (wrong > before) {
+      System.out.println("DOES NOT HOLD: " + sentence);
+    }
   }
 
   static void due(String what, Object got, Object want) {
@@ -31,6 +46,13 @@ final class Bench {
       System.out.println(wrong + " answers are not as due");
       System.exit(1);
     }
+    if (sentences > 0) {
+      System.out.println(sentences + " sentences hold");
+    }
+  }
+
+  static String text(byte[] bytes) {
+    return new String(bytes, StandardCharsets.ISO_8859_1);
   }
 
   static byte[] bytes(String text) {
@@ -84,11 +106,16 @@ final class Bench {
 
   /** Puts the bytes into an empty tray. */
   static void fill(RequestReader x, byte[] bytes) {
-    ByteBuffer padded = ByteBuffer.allocate((bytes.length + 19) / 20 * 20).put(bytes).rewind();
+    fillMore(x, 0, text(bytes));
+  }
+
+  /** Puts the text behind the bytes that the tray has. */
+  static void fillMore(RequestReader x, int have, String text) {
+    ByteBuffer padded = ByteBuffer.allocate((text.length() + 19) / 20 * 20).put(bytes(text)).rewind();
     while (padded.hasRemaining()) {
       x.feed(padded.getInt(), padded.getInt(), padded.getInt(), padded.getInt(), padded.getInt());
     }
-    x.end(bytes.length);
+    x.end(have + text.length());
   }
 
   static RequestReader installed(byte[] image) {
@@ -135,8 +162,36 @@ final class Bench {
 
   /** The look() and the number of the answer, as in "2 400". */
   static String number(String request) {
-    String answer = ask(request);
-    return answer.length() < 14 ? answer : answer.substring(0, 2) + answer.substring(11, 14);
+    return number(opened(), request);
+  }
+
+  /** The look() and the number of the answer for one more request, as in "1 200". */
+  static String number(RequestReader x, String request) {
+    come(x, request);
+    return x.look() + " " + number(x);
+  }
+
+  static String number(RequestReader x) {
+    return x.length() < 12 ? "" : "" + (char) x.at(9) + (char) x.at(10) + (char) x.at(11);
+  }
+
+  /** The bytes of a file, or of the failure's text, as one more request gets them. */
+  static String body(RequestReader x, String name) {
+    come(x, "GET " + name + " HTTP/1.1\nHost:\n\n");
+    x.look();
+    String answer = answer(x);
+    return answer.substring(answer.indexOf("\r\n\r\n") + 4);
+  }
+
+  /** All that a caller sees without changing it. */
+  static String state(RequestReader x) {
+    return "held " + x.held() + ", left " + x.left() + ", answer " + answer(x);
+  }
+
+  /** That the tray has just so many bytes. */
+  static void dueInTray(String what, RequestReader x, int count) {
+    due(what + ": a byte more in the tray", x.end(count + 1), -1);
+    due(what + ": the tray's bytes", x.end(count), count);
   }
 
   static String failure(String line, boolean closes) {

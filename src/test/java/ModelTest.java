@@ -129,7 +129,8 @@ public final class ModelTest {
   private String rightRequest() {
     int body = random.nextInt(3) == 0 ? random.nextInt(30) : 0;
     return pick("", "", "\n", "\r\n") + pick("GET", "GET", "GET", "HEAD", "PUT") + " "
-        + pick("/", "/", "/index.html", "/a.css", "/a.css?x%", "/%61.css", "/a%25b", "/d/x.js", "/d%2Fx.js", "/x", "/%1")
+        + pick("/", "/", "/index.html", "/a.css", "/a.css?x%", "/%61.css", "/a%25b", "/d/x.js", "/d%2Fx.js", "/x",
+            "/%1")
         + pick(" HTTP/1.1\nHost: a\n", " HTTP/1.1\r\nHOST:\r\n", " HTTP/1.0\n", " HTTP/1.0\r\nhost:b\r\n")
         + pick("", "", "Connection: close\n", "Connection: keep-alive\r\n", "connection:a,Keep-Alive\n")
         + pick("", "", "If-None-Match: *\n", "If-None-Match: \"352441c2\"\r\n", "if-none-match:\"00000000\" \n")
@@ -231,9 +232,10 @@ public final class ModelTest {
         long length = Integer.toUnsignedLong(numbers.getInt(at + 52));
         if (!name.matches("/[!-~]*\0+") || place > bytes.length || length > bytes.length - place
             || numbers.getInt(at + 60) != 0
-            || found.put(name.replace("\0", ""), new int[] {(int) place, (int) length, numbers.getInt(at + 56)}) != null) {
+            || found.containsKey(name.replace("\0", ""))) {
           return -1;
         }
+        found.put(name.replace("\0", ""), new int[] {(int) place, (int) length, numbers.getInt(at + 56)});
       }
       files = found;
       return count;

@@ -1,44 +1,32 @@
-/** Promise 7, look: the request line, the fields, the order of the errors, names and marks. */
+/** Promise 7, look: the request line and the fields of term 2, a test for each sentence. */
 public final class RequestTest {
   private static final String FIELD_MARKS = "-_.!#$%&'*+^`|~";
+  private static final String FAULTY = "2 400";
 
   public static void main(String[] args) {
-    requestLine();
-    fieldNames();
-    fieldValues();
-    hosts();
-    encodings();
-    lengths();
-    methods();
-    order();
+    Bench.says("request line: METHOD blank TARGET blank VERSION", RequestTest::rightLine);
+    Bench.says("request line: just two blanks", RequestTest::blanks);
+    Bench.says("request line: METHOD 1 to 16 letters", RequestTest::methodLength);
+    Bench.says("request line: METHOD letters A .. Z", RequestTest::methodLetters);
+    Bench.says("request line: TARGET begins with /", RequestTest::targetBegins);
+    Bench.says("request line: TARGET has codes 33 .. 126", RequestTest::targetCodes);
+    Bench.says("request line: VERSION is HTTP/1.0 or HTTP/1.1", RequestTest::versions);
+    Bench.says("request line: else 400", RequestTest::faultyLine);
+    Bench.says("fields: each other line is NAME : VALUE", RequestTest::fieldForm);
+    Bench.says("fields: NAME 1 or more", RequestTest::nameLength);
+    Bench.says("fields: NAME of letters, digits and marks", RequestTest::nameCodes);
+    Bench.says("fields: NAME at once before the colon", RequestTest::colon);
+    Bench.says("fields: VALUE without blanks and tabs at its ends", RequestTest::valueEnds);
+    Bench.says("fields: VALUE with codes 9, 32 .. 126 and 128 .. 255", RequestTest::valueCodes);
+    Bench.says("fields: VALUE may be empty", RequestTest::emptyValue);
+    Bench.says("fields: else 400", RequestTest::faultyField);
+    Bench.says("fields: great and small letters of names are the same", RequestTest::letters);
     Bench.finish();
   }
 
   private static void line(String line, String due) {
     Bench.due(line, Bench.number(line + "\r\nHost: a\r\n\r\n"), due);
-  }
-
-  private static void requestLine() {
-    line("GET / HTTP/1.1", "1 200");
-    line("GET / HTTP/1.0", "2 200");
-    String[] faulty = {"GET / HTTP/1.2", "GET / HTTP/2.0", "GET / http/1.1", "GET / HTTP/1.1 ", "GET  / HTTP/1.1",
-        "GET /  HTTP/1.1", " GET / HTTP/1.1", "GET /", "GET", "GET ", "GET  ", " ", "  ", "GET / ", "GET HTTP/1.1",
-        "get / HTTP/1.1", "GeT / HTTP/1.1", "G3T / HTTP/1.1", " / HTTP/1.1", "/ HTTP/1.1", "GET a HTTP/1.1",
-        "GET http://a/ HTTP/1.1", "GET * HTTP/1.1", "GET\t/ HTTP/1.1", "GET /\t HTTP/1.1", "GET /\u007f HTTP/1.1",
-        "GET /\u0080 HTTP/1.1", "GET /\u0000 HTTP/1.1", "GET / HTTP/1.1x", "GET / HTTP/1.", "GET / x HTTP/1.1",
-        "GET / HTTP/1.1\r", "GET /\r HTTP/1.1", "GET / HTTP/1.1 x", "GET@ / HTTP/1.1", "GET[ / HTTP/1.1"};
-    for (String each : faulty) {
-      line(each, "2 400");
-    }
-    line("A / HTTP/1.1", "1 405");
-    line("ABCDEFGHIJKLMNOZ / HTTP/1.1", "1 405");
-    line("ABCDEFGHIJKLMNOPQ / HTTP/1.1", "2 400");
-    line("GET /! HTTP/1.1", "1 404");
-    line("GET /~ HTTP/1.1", "1 404");
-    Bench.due("a faulty line is taken as GET", Bench.ask("HEAD  / HTTP/1.1\n\n"),
-        "2 " + Bench.failure("400 Bad Request", true));
-    Bench.due("a faulty field is not", Bench.ask("HEAD / HTTP/1.1\nx\n\n"),
-        "2 " + Bench.failureHead("400 Bad Request", true));
+    Bench.due(line, Bench.number(line + "\nHost: a\n\n"), due);
   }
 
   private static void field(String field, String due) {
@@ -46,91 +34,188 @@ public final class RequestTest {
     Bench.due(field, Bench.number("GET / HTTP/1.1\r\n" + field + "\r\nHost: a\r\n\r\n"), due);
   }
 
-  private static void fieldNames() {
+  private static void rightLine() {
+    line("GET / HTTP/1.1", "1 200");
+    line("HEAD /a.txt HTTP/1.0", "2 200");
+    for (String part : new String[] {"GET", "GET ", "GET /", "GET / ", "/ HTTP/1.1", "HTTP/1.1", "GET HTTP/1.1",
+        "GET/ HTTP/1.1", "GET /HTTP/1.1", "GET/HTTP/1.1", "x"}) {
+      line(part, FAULTY);
+    }
+    Bench.due("one line and no field", Bench.number("GET / HTTP/1.0\n\n"), "2 200");
+  }
+
+  private static void blanks() {
+    for (String each : new String[] {" ", "  ", "   ", " GET / HTTP/1.1", "GET  / HTTP/1.1", "GET /  HTTP/1.1",
+        "GET / HTTP/1.1 ", "GET / x HTTP/1.1", "GET / HTTP/1.1 x", " / HTTP/1.1", "GET  HTTP/1.1", "GET  ",
+        "GET\t/ HTTP/1.1", "GET /\tHTTP/1.1", "GET / HTTP/1.1\t"}) {
+      line(each, FAULTY);
+    }
+  }
+
+  private static void methodLength() {
+    for (int length = 0; length <= 40; length++) {
+      line("A".repeat(length) + " / HTTP/1.1", length >= 1 && length <= 16 ? "1 405" : FAULTY);
+    }
+  }
+
+  private static void methodLetters() {
+    for (int code = 0; code < 256; code++) {
+      if (code != '\n') {
+        boolean right = code >= 'A' && code <= 'Z';
+        line((char) code + " / HTTP/1.1", right ? "1 405" : FAULTY);
+        line("GET" + (char) code + " / HTTP/1.1", right ? "1 405" : FAULTY);
+      }
+    }
+    line("get / HTTP/1.1", FAULTY);
+    line("Get / HTTP/1.1", FAULTY);
+  }
+
+  private static void targetBegins() {
+    for (String each : new String[] {"a", "a/", "*", "http://a/", ".", "0", "?", "%2F", "%2Findex.html", "\\", ""}) {
+      line("GET " + each + " HTTP/1.1", FAULTY);
+    }
+    line("GET // HTTP/1.1", "1 404");
+  }
+
+  private static void targetCodes() {
+    for (int code = 0; code < 256; code++) {
+      if (code != '\n' && code != '%') {
+        boolean right = code >= 33 && code <= 126;
+        line("GET /no" + (char) code + " HTTP/1.1", right ? "1 404" : FAULTY);
+        line("GET /no" + (char) code + "no HTTP/1.1", right ? "1 404" : FAULTY);
+        line("GET /?" + (char) code + " HTTP/1.1", right ? "1 200" : FAULTY);
+      }
+    }
+  }
+
+  private static void versions() {
+    line("GET / HTTP/1.0", "2 200");
+    line("GET / HTTP/1.1", "1 200");
+    for (String each : new String[] {"HTTP/1.2", "HTTP/1./", "HTTP/0.1", "HTTP/2.0", "HTTP/1.", "HTTP/1.10",
+        "HTTP/1.1x", "HTTP/11", "HTTP/1,1", "http/1.1", "Http/1.1", "HTTP 1.1", "HTTQ/1.1", "XTTP/1.0", "HTTP/1",
+        "H", ""}) {
+      line("GET / " + each, FAULTY);
+    }
+  }
+
+  private static void faultyLine() {
+    Bench.due("all of 400, as for GET", Bench.ask("HEAD  / HTTP/1.1\nHost:\n\n"),
+        "2 " + Bench.failure("400 Bad Request", true));
+    Bench.due("with a wrong version", Bench.ask("HEAD / HTTP/1.2\nHost:\n\n"), "2 "
+        + Bench.failure("400 Bad Request", true));
+    Bench.due("with a wrong target", Bench.ask("HEAD a HTTP/1.1\nHost:\n\n"), "2 "
+        + Bench.failure("400 Bad Request", true));
+    Bench.due("before all others", Bench.number("PUT x HTTP/1.1\nHost:\nTransfer-Encoding: a\n\n"), FAULTY);
+    RequestReader x = Bench.opened();
+    Bench.come(x, "HEAD / HTTP/1.0\n\nHEAD  /\n\n");
+    x.look();
+    x.look();
+    Bench.due("nothing of the request before", Bench.answer(x), Bench.failure("400 Bad Request", true));
+  }
+
+  private static void fieldForm() {
+    field("name: value", "1 200");
+    field("n:v", "1 200");
+    field("n:v:w::", "1 200");
+    for (String each : new String[] {"name", "name value", "n", " ", "\t", "-"}) {
+      field(each, FAULTY);
+    }
+    Bench.due("a line that goes on", Bench.number("GET / HTTP/1.1\nHost:\nn: a\n b\n\n"), FAULTY);
+    Bench.due("a line that goes on like a field", Bench.number("GET / HTTP/1.1\nHost:\nn: a\n\tb: c\n\n"), FAULTY);
+  }
+
+  private static void nameLength() {
+    field(":", FAULTY);
+    field(":v", FAULTY);
+    field("::", FAULTY);
+    field(" :v", FAULTY);
+    field("n:", "1 200");
+    field("n".repeat(2000) + ":", "1 200");
+  }
+
+  private static void nameCodes() {
     field("AZaz09" + FIELD_MARKS + ":", "1 200");
     for (int code = 0; code < 256; code++) {
-      boolean right = Character.isLetterOrDigit(code) && code < 128 || FIELD_MARKS.indexOf(code) >= 0;
+      boolean letter = code >= 'a' && code <= 'z' || code >= 'A' && code <= 'Z';
+      boolean right = letter || code >= '0' && code <= '9' || FIELD_MARKS.indexOf(code) >= 0;
       if (code != ':' && code != '\n') {
-        field((char) code + ":v", right ? "1 200" : "2 400");
-        field("n" + (char) code + "n:v", right ? "1 200" : "2 400");
+        field((char) code + ":v", right ? "1 200" : FAULTY);
+        field("n" + (char) code + "n:v", right ? "1 200" : FAULTY);
+        field("n" + (char) code + ":v", right ? "1 200" : FAULTY);
       }
     }
-    field(":v", "2 400");
-    field("name", "2 400");
-    field("name :v", "2 400");
-    field("name\t:v", "2 400");
-    field(" name:v", "2 400");
-    field("na me:v", "2 400");
-    field("::", "2 400");
-    field("n::", "1 200");
   }
 
-  private static void fieldValues() {
-    field("n:", "1 200");
-    field("n: \t ", "1 200");
-    field("n:\t a b\tc:d \t", "1 200");
+  private static void colon() {
+    for (String each : new String[] {"name :v", "name\t:v", "name  : v", " name:v", "\tname:v", "na me:v"}) {
+      field(each, FAULTY);
+    }
+    Bench.due("a host with a blank", Bench.number("GET / HTTP/1.1\nHost : a\n\n"), FAULTY);
+  }
+
+  private static void valueEnds() {
+    for (String each : new String[] {"7", " 7", "7 ", "\t7", "7\t", " \t 7\t \t"}) {
+      RequestReader x = Bench.opened();
+      Bench.due("a length of '" + each + "'",
+          Bench.number(x, "GET / HTTP/1.1\nHost:\nContent-Length:" + each + "\r\n\r\n"), "1 200");
+      Bench.due("left() of '" + each + "'", x.left(), 7);
+    }
+    Bench.due("a blank within", Bench.number("GET / HTTP/1.1\nHost:\nContent-Length: 7 7\n\n"), FAULTY);
+    Bench.due("a tab within", Bench.number("GET / HTTP/1.1\nHost:\nContent-Length: 7\t7\n\n"), FAULTY);
+  }
+
+  private static void valueCodes() {
     for (int code = 0; code < 256; code++) {
-      boolean right = code == 9 || code >= 32 && code != 127;
+      boolean right = code == 9 || code >= 32 && code <= 126 || code >= 128;
       if (code != '\n') {
-        field("n:a" + (char) code + "b", right ? "1 200" : "2 400");
+        field("n:a" + (char) code + "b", right ? "1 200" : FAULTY);
+        field("n:" + (char) code + "b", right ? "1 200" : FAULTY);
+      }
+      if (code != '\n' && code != '\r') {
+        field("n:a" + (char) code, right ? "1 200" : FAULTY);
       }
     }
-    field("n:a\r\r", "2 400");
-    field("n:a\n b", "2 400");
+    field("n:a\r\r", FAULTY);
   }
 
-  private static void head(String start, String fields, String due) {
-    Bench.due(start + " " + fields, Bench.number(start + "\n" + fields + "\n"), due);
+  private static void emptyValue() {
+    field("n:", "1 200");
+    field("n: ", "1 200");
+    field("n:\t \t", "1 200");
+    Bench.due("an empty host", Bench.number("GET / HTTP/1.1\nHost:\n\n"), "1 200");
   }
 
-  private static void hosts() {
-    head("GET / HTTP/1.1", "", "2 400");
-    head("GET / HTTP/1.1", "Host:\n", "1 200");
-    head("GET / HTTP/1.1", "hOSt: a\n", "1 200");
-    head("GET / HTTP/1.1", "Host: a\nHOST: a\n", "2 400");
-    head("GET / HTTP/1.1", "Hos: a\nHostt: b\nXost: c\nHosx: d\n", "2 400");
-    head("GET / HTTP/1.0", "", "2 200");
-    head("GET / HTTP/1.0", "Host: a\n", "2 200");
-    head("GET / HTTP/1.0", "Host: a\nhost: b\n", "2 400");
+  private static void faultyField() {
+    Bench.due("all of 400", Bench.ask("GET / HTTP/1.1\nHost:\nx\n\n"), "2 " + Bench.failure("400 Bad Request", true));
+    Bench.due("all of 400 for HEAD", Bench.ask("HEAD / HTTP/1.1\nx\n\n"), "2 "
+        + Bench.failureHead("400 Bad Request", true));
+    Bench.due("before all others", Bench.number("PUT / HTTP/1.1\nHost:\nTransfer-Encoding: a\nx\n\n"), FAULTY);
+    Bench.due("in the first field", Bench.number("GET / HTTP/1.1\nx\nHost:\n\n"), FAULTY);
+    Bench.due("in the last field", Bench.number("GET / HTTP/1.1\nHost:\na:b\nx\n\n"), FAULTY);
+    RequestReader x = Bench.opened();
+    Bench.come(x, "GET / HTTP/1.1\nx\n\nGET / HTTP/1.1\nHost:\n\n");
+    x.look();
+    Bench.due("the next is another", x.look(), 1);
   }
 
-  private static void encodings() {
-    head("GET / HTTP/1.1", "Host:\nTransfer-Encoding: chunked\n", "2 501");
-    head("GET / HTTP/1.0", "transfer-ENCODING:\n", "2 501");
-    head("GET / HTTP/1.0", "Transfer-Encodin:\nXransfer-Encoding:\n", "2 200");
-  }
-
-  private static void lengths() {
-    String[] faulty = {"", " ", "a", "+1", "-1", "1 2", "1,1", "0x1", "1234567890", "0000000000", "1.0", "/", ":"};
-    for (String each : faulty) {
-      head("GET / HTTP/1.0", "Content-Length:" + each + "\n", "2 400");
+  private static void letters() {
+    for (String host : new String[] {"Host", "host", "HOST", "hOSt"}) {
+      Bench.due(host, Bench.number("GET / HTTP/1.1\n" + host + ":\n\n"), "1 200");
     }
-    head("GET / HTTP/1.0", "Content-Length: 000000000\n", "2 200");
-    head("GET / HTTP/1.0", "Content-Length: 999999999\n", "2 413");
-    head("GET / HTTP/1.0", "CONTENT-LENGTH: 65537\n", "2 413");
-    head("GET / HTTP/1.0", "content-length: 65536\n", "2 200");
-    head("GET / HTTP/1.0", "Content-Length: 1\nContent-Length: 1\n", "2 400");
-    head("GET / HTTP/1.0", "Content-Length: 99999\nContent-Length: 1\n", "2 400");
-    head("GET / HTTP/1.0", "Content-Length: x\nContent-Length: 1\n", "2 400");
-  }
-
-  private static void methods() {
-    for (String each : new String[] {"POST", "GETT", "HEADS", "GE", "HEA", "OPTIONS", "H"}) {
-      head(each + " / HTTP/1.1", "Host:\n", "1 405");
+    for (String each : new String[] {"Ho", "Hos", "Hostt", "Xost", "Hosx", "H-st"}) {
+      Bench.due(each, Bench.number("GET / HTTP/1.1\n" + each + ":\n\n"), FAULTY);
     }
-    head("HEAD / HTTP/1.1", "Host:\n", "1 200");
-  }
-
-  /** Each request has all the faults that stand behind the one that is due. */
-  private static void order() {
-    String start = "POST /%zz HTTP/1.1";
-    head("POST /%zz HTTP/1.1", "x\nTransfer-Encoding:\nContent-Length: 99999\n", "2 400");
-    head(start, "Transfer-Encoding:\nContent-Length: 99999\n", "2 400");
-    head(start, "Host:\nTransfer-Encoding:\nContent-Length: x\n", "2 501");
-    head(start, "Host:\nContent-Length: 99999\nContent-Length: 99999\n", "2 400");
-    head(start, "Host:\nContent-Length: 99999\n", "2 413");
-    head(start, "Host:\nContent-Length: 9\n", "1 405");
-    head("GET /no%zz HTTP/1.1", "Host:\n", "2 400");
-    head("GET /no HTTP/1.1", "Host:\nIf-None-Match: *\n", "1 404");
+    field("TRANSFER-ENCODING: a", "2 501");
+    field("transfer-encoding: a", "2 501");
+    field("CONTENT-LENGTH: 70000", "2 413");
+    field("content-length: 70000", "2 413");
+    field("IF-NONE-MATCH: *", "1 304");
+    field("if-none-match: *", "1 304");
+    field("CONNECTION: close", "2 200");
+    field("connection: close", "2 200");
+    for (String each : new String[] {"content_length: 70000", "transferencoding: a", "if-none-matc: *",
+        "connectio: close"}) {
+      field(each, "1 200");
+    }
   }
 }

@@ -18,6 +18,7 @@ public final class ImageTest {
     Bench.says("term: numbers of several bytes have the highest first", ImageTest::highestFirst);
     Bench.says("term 1: at most 65535 bytes", ImageTest::largest);
     Bench.says("term 1: too few bytes", ImageTest::tooShort);
+    Bench.says("term 1: bytes of the check that are not there are not taken as 0 or 255", ImageTest::missingCheck);
     Bench.says("term 1: 83 84 79 82", ImageTest::sign);
     Bench.says("term 1: the number of files is 0 .. 64", ImageTest::counts);
     Bench.says("term 1: the number of files has 2 bytes", ImageTest::countOfTwoBytes);
@@ -134,6 +135,20 @@ public final class ImageTest {
     }
     Bench.due("one file, 76 bytes", open(one), 1);
     Bench.due("one file, bytes behind", open(Arrays.copyOf(one, 77)), 1);
+  }
+
+  /** Entries with checks of their own that make the head's check end with bytes 0 or 255. */
+  private static void missingCheck() {
+    int[] checks = {0x3E1F09FC, 0x91CFED13, 0x653BC5FF, 0x551107F8, 0xD40A0A86};
+    int[] heads = {0, -1, 0x12345600, 0x12340000, 0x12000000};
+    for (int i = 0; i < checks.length; i++) {
+      byte[] image = Bench.image(new byte[][] {Bench.entry("/a", 0, 0, checks[i])}, new byte[0]);
+      Bench.due("the head's check", ByteBuffer.wrap(image).getInt(72), heads[i]);
+      Bench.due("all of it", open(image), 1);
+      for (int size = 72; size < 76; size++) {
+        Bench.due("only " + (size - 72) + " bytes of the check", open(Arrays.copyOf(image, size)), -1);
+      }
+    }
   }
 
   private static void sign() {

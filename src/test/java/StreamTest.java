@@ -16,6 +16,7 @@ public final class StreamTest {
     Bench.says("term 2: a body's bytes are taken first, as far as they are there", StreamTest::bodyFirst);
     Bench.says("term 2: then empty lines are taken", StreamTest::emptyLines);
     Bench.says("term 2: a line ends with 10; a 13 right before it is not part of it", StreamTest::lineEnds);
+    Bench.says("term 2: a line of one code is not empty", StreamTest::shortestLines);
     Bench.says("term 2: a head is taken, lines up to the first empty one", StreamTest::headIsTaken);
     Bench.says("term 2: if 4096 bytes are held, all are taken: 431", StreamTest::fullStream);
     Bench.says("term 2: with 4095 held there is none", StreamTest::nearlyFullStream);
@@ -235,6 +236,18 @@ public final class StreamTest {
     Bench.due("13 alone ends nothing", Bench.number("GET / HTTP/1.0\r\r\r\r"), "0 ");
     Bench.due("a 13 not before a 10 is part of the line", Bench.number("\rGET / HTTP/1.0\n\n"), "2 400");
     Bench.due("10 13 does not end a head", Bench.number("GET / HTTP/1.0\n\r"), "0 ");
+  }
+
+  private static void shortestLines() {
+    for (String line : new String[] {"x\n", "x\r\n", "\0\n", "\0\r\n", " \n", "\t\r\n", "\r\r\n"}) {
+      RequestReader x = Bench.opened();
+      Bench.due("one line", Bench.number(x, line), "0 ");
+      Bench.due("held() with one line", x.held(), line.length());
+      Bench.due("two lines", Bench.number(x, line), "0 ");
+      Bench.due("held() with two lines", x.held(), 2 * line.length());
+      Bench.due("an empty one behind", Bench.number(x, "\nab"), "2 400");
+      Bench.due("held() behind the head", x.held(), 2);
+    }
   }
 
   private static void headIsTaken() {

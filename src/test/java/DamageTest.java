@@ -1,7 +1,11 @@
+import java.util.List;
+import java.util.function.Function;
+
 /** Promise 12, damage, and term 3 on entries, answers and refused calls: a test for each sentence. */
 public final class DamageTest {
   private static final byte[] IMAGE = Bench.image(Bench.FILES);
   private static final int PLACE = 12 + 3 * 64 + Bench.HTML.length();
+  private static final int CALLS_TO_OPEN = (IMAGE.length + 19) / 20 + 3;
   private static final int[] NO_PLACES = {-1, -2, IMAGE.length, IMAGE.length + 1, 65535, 65536, Integer.MIN_VALUE,
       Integer.MAX_VALUE, -IMAGE.length};
 
@@ -17,6 +21,8 @@ public final class DamageTest {
     Bench.says("term 3: damage done later does not show in the answer", DamageTest::answers);
     Bench.says("term 3: a call that is refused changes nothing", DamageTest::refusedCalls);
     Bench.says("an object is used for 512 calls", DamageTest::manyCalls);
+    Bench.says("an object is used for 512 calls of one kind", DamageTest::manyCallsOfOneKind);
+    Bench.says("an object is used for 512 calls, half of them with answers", DamageTest::manyAnswers);
     Bench.finish();
   }
 
@@ -185,7 +191,7 @@ public final class DamageTest {
     Bench.fill(x, IMAGE);
     x.install();
     x.open();
-    int calls = (IMAGE.length + 19) / 20 + 3;
+    int calls = CALLS_TO_OPEN;
     for (; calls + 5 <= 512; calls += 5) {
       x.feed(0x47455420, 0x2F204854, 0x54502F31, 0x2E300A0A, 0);
       x.end(16);
@@ -195,5 +201,39 @@ public final class DamageTest {
           Bench.successHead(Bench.HTML, "text/html", true).length() + Bench.HTML.length());
     }
     Bench.due("all 512 calls, or nearly", calls > 507, true);
+  }
+
+  private static void manyCallsOfOneKind() {
+    List<Function<RequestReader, Object>> kinds = List.of(x -> x.end(0), x -> x.come(), x -> x.look(), x -> x.held(),
+        x -> x.left(), x -> x.length(), x -> x.open(), x -> x.at(0), x -> x.damage(PLACE, 'p'));
+    List<Object> answers = List.of(0, 0, 0, 0, 0, 0, Bench.FILES.length, -1, true);
+    for (int kind = 0; kind < kinds.size(); kind++) {
+      RequestReader x = Bench.opened(IMAGE);
+      for (int call = CALLS_TO_OPEN + 1; call <= 512; call++) {
+        Bench.due("kind " + kind + " as call " + call, kinds.get(kind).apply(x), answers.get(kind));
+      }
+    }
+    RequestReader x = new RequestReader();
+    for (int call = 1; call <= 512; call++) {
+      Bench.due("feed() as call " + call, x.feed(1, 2, 3, 4, 5), 20 * call);
+    }
+    x = new RequestReader();
+    for (int call = 1; call <= 512; call++) {
+      Bench.due("install() as call " + call, x.install(), 0);
+    }
+  }
+
+  private static void manyAnswers() {
+    RequestReader x = Bench.opened(IMAGE);
+    String head = "GET / HTTP/1.0\n\n";
+    String heads = head.repeat(4096 / head.length());
+    int calls = CALLS_TO_OPEN + (heads.length() + 19) / 20 + 2;
+    Bench.due("come()", Bench.come(x, heads), 4096);
+    for (int left = heads.length() - head.length(); left >= 0; left -= head.length()) {
+      calls++;
+      Bench.due("look() as call " + calls, x.look(), 2);
+    }
+    Bench.due("held()", x.held(), 0);
+    Bench.due("no more than 512 calls", calls < 512, true);
   }
 }
